@@ -437,12 +437,16 @@ public final class LayerSounder {
 
     // ---- cells
 
-    private int reading(int r, int i) {
+    private int readingOf(int r, int i) {
         return isReel(r) ? reels[r].reading(i) : LOWEST_NONE;
     }
 
     private void readBeams(int firstReel, int i) {
-        beams.take(reading(firstReel, i), reading(firstReel + 1, i), reading(firstReel + 2, i), reading(firstReel + 3, i));
+        int first = readingOf(firstReel, i);
+        int second = readingOf(firstReel + 1, i);
+        int third = readingOf(firstReel + 2, i);
+        int fourth = readingOf(firstReel + 3, i);
+        beams.take(first, second, third, fourth);
     }
 
     private int itemOfCell(int p, int c) {
@@ -584,7 +588,7 @@ public final class LayerSounder {
         return best;
     }
 
-    /** Amounts are told as numbers below 0, since the least long has no other: the greater amount is the lesser number. */
+    /** Amounts are told as numbers below 0, where the least long has one too: the greater amount is the lesser number. */
     private static long missBelowZero(Drift gap, int turn) {
         return Math.min(belowZero(gap.east(turn)), belowZero(gap.north(turn)));
     }

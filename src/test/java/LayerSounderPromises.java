@@ -106,12 +106,14 @@ public final class LayerSounderPromises {
         due("reel(0, -1, 1)", x.reel(0, -1, 1), -2);
         due("reel(0, 3, -1): BAD is ahead of SIZE", x.reel(0, 3, -1), -2);
         due("BAD is no FINDING", x.count(5), 0);
+        x.put(7, 2, 0, 4);
         x.put(7, 2, 199, 5);
         due("reel(7, 0, -1)", x.reel(7, 0, -1), -15);
         due("reel(7, 0, least)", x.reel(7, 0, LEAST), -15);
         due("count(5)", x.count(5), 5);
         due("a refusal changes nothing", x.get(7, 2, 199), 5);
         due("reel(7, 2, 200) again", x.reel(7, 2, 200), 200);
+        due("items are 0 at first", x.get(7, 2, 0), 0);
         due("items are 0 at first", x.get(7, 2, 199), 0);
         due("reel(7, 1, 3)", x.reel(7, 1, 3), 3);
         due("the new FORM", x.put(7, 1, 2, 1), 1);
@@ -478,6 +480,8 @@ public final class LayerSounderPromises {
         fatesAre(x, "EDGE 6", 3, 3, 3, 3, 3, 3);
         x.lose(3);
         fatesAre(x, "a REEL is LOST", 3, 2, 3, 3, 3, 3);
+        x.laws(0, false, 1000);
+        fatesAre(x, "a REEL is LOST, no THREES", 4, 2, 4, 4, 4, 4);
         x.motion(2);
         fatesAre(x, "no OWN", 1, 1, 1, 1, 1, 1);
         fatesOfAcross();
@@ -649,6 +653,13 @@ public final class LayerSounderPromises {
         due("flow(0, 1, 1) with DEPTH 5: CELL 5 is BELOW", x.flow(0, 1, 1), 3 * 7 * 4225 - 3 * 2 * 4225);
         x.motion(1);
         due("flow(0, 1, 1) without OWN", x.flow(0, 1, 1), 0);
+        x = sounder(3);
+        fillPaces(x, 0, new int[] {1, 2, odd, 5, 5, 5}, new int[3 + 3]);
+        x.ping(0, 0, 0, 3);
+        x.ping(0, 0, 10, 3);
+        x.ping(0, 0, 30, 3);
+        due("flow(0, 1, 1): CELL 0 is GOOD, PING 1 is not in it", x.flow(0, 1, 1), 10 * 4225 * (1 + 2 + 2));
+        due("flow(0, 2, 1)", x.flow(0, 2, 1), 10 * 4225 * (1 + 2 + 2) + 20 * 4225 * 15);
     }
 
     private static void askew() {
@@ -692,6 +703,7 @@ public final class LayerSounderPromises {
         due("closes(0, 5)", x.closes(0, 5), 3);
         due("closes(0, 6)", x.closes(0, 6), 2);
         due("closes(1, 5)", x.closes(1, 5), 3);
+        due("closes(2, 1000000): from its own PLACE", x.closes(2, 1000000), 6);
         due("closes(4, 1000000)", x.closes(4, 1000000), 6);
         due("closes(5, 1000000): none behind", x.closes(5, 1000000), -1);
         due("closes(6, 0)", x.closes(6, 0), -1);
