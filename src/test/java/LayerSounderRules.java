@@ -8,12 +8,14 @@ import java.nio.file.Path;
 import java.util.ArrayList;
 import java.util.HashSet;
 import java.util.List;
+import java.util.Map;
 import java.util.Set;
+import java.util.TreeMap;
 import java.util.TreeSet;
 import java.util.regex.Matcher;
 import java.util.regex.Pattern;
 
-/** The rules that bind the program's file: its face, its words, and that no call throws or makes objects. */
+/** The rules that bind the program's file: its face, its words, its sizes, and that no call throws or makes objects. */
 public final class LayerSounderRules {
     private static final String[] FACE = {
         "int reel(int,int,int)", "int lose(int)", "int put(int,int,int,int)", "int get(int,int,int)",
@@ -29,6 +31,7 @@ public final class LayerSounderRules {
         20000, 1000000, Integer.MAX_VALUE - 1, Integer.MAX_VALUE
     };
     private static final int CALLS = 512, OBJECTS = 200;
+    private static final int MOST_CLASSES = 12, MOST_FIELDS = 20, MOST_LINES = 60, MOST_DEEP = 8;
 
     private static int wrong = 0;
 
@@ -42,6 +45,8 @@ public final class LayerSounderRules {
         face();
         noOtherUseOfPublicNames();
         wordsOfTheFile(withoutComments(text));
+        sizesOfClasses();
+        sizesOfMethods(bodiesOfMethods(withoutComments(text)));
         noCallThrows();
         noCallMakesObjects();
         System.out.println(wrong == 0 ? "all rules are kept" : wrong + " rules are not kept");
@@ -146,6 +151,87 @@ public final class LayerSounderRules {
                 tell("the file uses " + library.group());
             }
         }
+    }
+
+    // ---- the sizes
+
+    private static void sizesOfClasses() {
+        List<Class<?>> all = new ArrayList<>(List.of(LayerSounder.class.getDeclaredClasses()));
+        all.add(LayerSounder.class);
+        if (all.size() > MOST_CLASSES) {
+            tell("there are " + all.size() + " classes");
+        }
+        for (Class<?> type : all) {
+            int fields = 0;
+            for (Field f : type.getDeclaredFields()) {
+                fields += Modifier.isStatic(f.getModifiers()) ? 0 : 1;
+            }
+            if (fields > MOST_FIELDS) {
+                tell(type + " has " + fields + " fields");
+            }
+        }
+    }
+
+    /** The lines of each method by its name; the file is laid out so that a method ends where its first line's indent does. */
+    private static Map<String, List<String>> bodiesOfMethods(String code) {
+        Pattern head = Pattern.compile("( +)(?:public |private )?(?:static )?(?:int|long|boolean|void) (\\w+)\\(.*\\) \\{");
+        Map<String, List<String>> bodies = new TreeMap<>();
+        List<String> body = null;
+        String end = "";
+        for (String line : code.split("\n")) {
+            Matcher m = head.matcher(line);
+            if (m.matches()) {
+                body = new ArrayList<>();
+                end = m.group(1) + "}";
+                if (bodies.put(m.group(2), body) != null) {
+                    tell("two methods are named " + m.group(2) + ", so calls can't be told apart by their names");
+                }
+            } else if (line.equals(end)) {
+                body = null;
+            } else if (body != null) {
+                body.add(line);
+            }
+        }
+        return bodies;
+    }
+
+    private static void sizesOfMethods(Map<String, List<String>> bodies) {
+        int declared = declaredMethods();
+        if (bodies.size() != declared) {
+            tell(bodies.size() + " methods were found in the file, " + declared + " in its classes");
+        }
+        for (Map.Entry<String, List<String>> method : bodies.entrySet()) {
+            if (method.getValue().size() > MOST_LINES) {
+                tell(method.getKey() + " has " + method.getValue().size() + " lines");
+            }
+            int deep = deepest(bodies, method.getKey(), 0);
+            if (deep > MOST_DEEP) {
+                tell("the calls of " + method.getKey() + " go " + deep + " deep");
+            }
+        }
+    }
+
+    private static int declaredMethods() {
+        int many = LayerSounder.class.getDeclaredMethods().length;
+        for (Class<?> inside : LayerSounder.class.getDeclaredClasses()) {
+            many += inside.getDeclaredMethods().length;
+        }
+        return many;
+    }
+
+    /** How many calls stand open at once below a method, itself included; a method that comes back to itself is too deep. */
+    private static int deepest(Map<String, List<String>> bodies, String name, int above) {
+        if (above > MOST_DEEP) {
+            return 1;
+        }
+        int below = 0;
+        Matcher call = Pattern.compile("\\b(\\w+)\\(").matcher(String.join("\n", bodies.get(name)));
+        while (call.find()) {
+            if (bodies.containsKey(call.group(1))) {
+                below = Math.max(below, deepest(bodies, call.group(1), above + 1));
+            }
+        }
+        return below + 1;
     }
 
     // ---- no call throws
